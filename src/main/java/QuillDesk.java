@@ -555,7 +555,6 @@ public final class QuillDesk {
         return v >= least && v <= most;
     }
 
-    /** A row told for thought. */
     private static final class Row {
         final int[] values;
         final int limit;
@@ -598,7 +597,6 @@ public final class QuillDesk {
             return sum;
         }
 
-        /** The value at a place that goes round; 0 in an empty row. */
         int round(int i) {
             return size > 0 && i >= 0 ? values[i % size] : 0;
         }
@@ -625,7 +623,6 @@ public final class QuillDesk {
             size = 0;
         }
 
-        /** Puts a line behind the others; a limit of the reader keeps their number low. */
         void add(int a, int b, int c, int d) {
             if (size < 0 || size >= MOST_LINES) {
                 return;
@@ -695,7 +692,6 @@ public final class QuillDesk {
             }
         }
 
-        /** What the word is by the facts that are known now. */
         int tell(int word) {
             for (int i = 0; i < lines.size; i++) {
                 int middle = lines.third[i];
@@ -747,7 +743,7 @@ public final class QuillDesk {
         }
     }
 
-    /** What an HOUR changes, but THE BOOK. */
+    /** Apart from the rest because an HOUR changes just this and THE BOOK: kept for UNDO, copied for thought. */
     private static final class Firm {
         int draws;
         int lifted;
@@ -936,7 +932,6 @@ public final class QuillDesk {
         }
     }
 
-    /** THE BOOK. */
     private static final class Book {
         final int[] hour;
         final int[] what;
@@ -972,7 +967,7 @@ public final class QuillDesk {
         }
     }
 
-    /** All that THE IMAGE holds. */
+    /** Apart from the rest because THE IMAGE holds just this. */
     private static final class Desk {
         final Firm firm;
         final Book book;
@@ -1385,13 +1380,12 @@ public final class QuillDesk {
             return true;
         }
 
-        /** A NUMBER from the least one on and below another; it is in number then. */
-        private boolean expectNumber(int least, int below) {
+        private boolean expectNumber(int below) {
             int kind = token();
             if (kind < 0 || kind >= FIRST_WORD) {
                 return refuse(NO_STAND);
             }
-            if (kind < least || kind >= below) {
+            if (kind >= below) {
                 return refuse(BEYOND);
             }
             number = kind;
@@ -1400,11 +1394,11 @@ public final class QuillDesk {
         }
 
         private boolean orderLine(Firm f) {
-            if (!expect(AT) || !expectNumber(0, 1000)) {
+            if (!expect(AT) || !expectNumber(1000)) {
                 return false;
             }
             int hour = number;
-            if (!expect(CLERK) || !expectNumber(0, f.clerks)) {
+            if (!expect(CLERK) || !expectNumber(f.clerks)) {
                 return false;
             }
             int clerk = number;
@@ -1415,7 +1409,7 @@ public final class QuillDesk {
             at++;
             int v = NONE;
             if (kind == TAKE || kind == WRITE) {
-                if (!expectNumber(0, kind == TAKE ? f.quills : f.deeds)) {
+                if (!expectNumber(kind == TAKE ? f.quills : f.deeds)) {
                     return false;
                 }
                 v = number;
@@ -1430,20 +1424,22 @@ public final class QuillDesk {
                 case DROP: return DROP_QUILL;
                 case DIP: return DIP_QUILL;
                 case CUT: return CUT_QUILL;
-                default: return GO_TO_DEED;
+                case WRITE: return GO_TO_DEED;
+                case REST: return GO_TO_DEED;
+                default: return NONE;
             }
         }
 
         private boolean birdLine() {
-            if (!expect(BIRD) || !expectNumber(0, MOST_BIRD + 1)) {
+            if (!expect(BIRD) || !expectNumber(MOST_BIRD + 1)) {
                 return false;
             }
             int bird = number;
-            if (!expect(WILD) || !expectNumber(0, 10)) {
+            if (!expect(WILD) || !expectNumber(10)) {
                 return false;
             }
             int wild = number;
-            if (!expect(FINE) || !expectNumber(0, 10)) {
+            if (!expect(FINE) || !expectNumber(10)) {
                 return false;
             }
             lines.add(bird, wild, number, 0);
@@ -1451,11 +1447,11 @@ public final class QuillDesk {
         }
 
         private boolean afterLine(Firm f) {
-            if (!expect(DEED) || !expectNumber(0, f.deeds)) {
+            if (!expect(DEED) || !expectNumber(f.deeds)) {
                 return false;
             }
             int deed = number;
-            if (!expect(AFTER) || !expectNumber(0, deed)) {
+            if (!expect(AFTER) || !expectNumber(deed)) {
                 return false;
             }
             lines.add(deed, number, 0, 0);
@@ -1492,19 +1488,17 @@ public final class QuillDesk {
                     break;
                 }
                 at++;
-                if (sign == TIMES || sign == PARTS) {
-                    if (!(sign == TIMES ? unit() : part())) {
-                        return false;
-                    }
-                    law.put(sign);
-                } else {
+                if (sign == PLUS || sign == MINUS) {
                     if (waits != NONE) {
                         law.put(waits);
                     }
                     waits = sign;
-                    if (!unit()) {
-                        return false;
-                    }
+                }
+                if (!(sign == PARTS ? part() : unit())) {
+                    return false;
+                }
+                if (sign == TIMES || sign == PARTS) {
+                    law.put(sign);
                 }
             }
             if (waits != NONE) {
@@ -1524,10 +1518,15 @@ public final class QuillDesk {
         }
 
         private boolean part() {
-            if (!expectNumber(1, FIRST_WORD)) {
-                return false;
+            int kind = token();
+            if (kind < 0 || kind >= FIRST_WORD) {
+                return refuse(NO_STAND);
             }
-            law.put(number);
+            if (kind == 0) {
+                return refuse(BEYOND);
+            }
+            law.put(kind);
+            at++;
             return true;
         }
 
@@ -1941,7 +1940,6 @@ public final class QuillDesk {
             return 0;
         }
 
-        /** What each heir has of l, into the row. */
         private void share(Row heirs, int l, int[] shares) {
             int all = heirs.sum();
             if (all <= 0) {

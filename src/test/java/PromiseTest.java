@@ -68,7 +68,7 @@ public final class PromiseTest {
 
     public static void main(String[] args) {
         p1(); p2(); p3(); p4(); p5(); p6(); p7(); p8(); drawsOfAnHour(); ordersOfAnHour(); p9(); p10();
-        p11(); lawFaults(); lawTells(); otherTexts(); p12(); p13(); p14(); p15(); p16(); p17(); p18(); p19(); p20();
+        p11(); lawFaults(); lawTells(); lawKnows(); otherTexts(); p12(); p13(); p14(); p15(); p16(); p17(); p18(); p19(); p20();
         p21(); p23(); p25(); p26(); p27(); p28(); p29(); p31(); p33(); p35(); p37(); p38(); p40(); p42(); p43(); p44(); p45();
         System.out.println(right + " passed, " + wrong + " failed");
         if (wrong != 0) System.exit(1);
@@ -167,6 +167,8 @@ public final class PromiseTest {
         due("set(-1, 0, 1)", x.set(-1, 0, 1), false);
         due("set(MAX, MAX, MAX)", x.set(MAX, MAX, MAX), false);
         due("look(12)", x.look(12), 4);
+        due("set(0, 1, 0)", x.set(0, 1, 0), true);
+        due("set(1, 1, 0)", x.set(1, 1, 0), true);
         due("set(0, 1, 99)", x.set(0, 1, 99), true);
         due("look(12)", x.look(12), 0);
         due("set(1, 1, 99)", x.set(1, 1, 99), true);
@@ -540,8 +542,41 @@ public final class PromiseTest {
         due("a part before a sum", x.who(0, 6), 7);
     }
 
+    private static void lawKnows() {
+        QuillDesk x = calm();
+        x.hours(2);
+        tell(x, 0, "lifts 1000 when hand=9;lifts 0;");
+        x.act(2, 1, 1);
+        x.hours(1);
+        good(x, 0, "writes signed*50+lifted*30+hour*2;blots 5 when hand=5 and (1=2 or 1=1 or 1=2);blots 6;lifts 5 when not 1=1;lifts 6 when 1<2 and 2>1 and 1=1;", 5);
+        due("signed, lifted, hour", x.who(0, 5), 86);
+        due("lifted, hour", x.who(1, 5), 36);
+        due("or and or", x.who(0, 6), 5);
+        due("hand", x.who(1, 6), 6);
+        due("and and and", x.who(0, 7), 6);
+        good(x, 0, "writes 1 when 1=1 or 1=2 or 1=2;writes 2;lifts 1 when 1=1 and 1=2 and 1=1;lifts 2 when 1=2 or 1=2 or 1=2;lifts 3;", 5);
+        due("or or", x.who(0, 5), 1);
+        due("and and, none of three", x.who(0, 7), 3);
+        good(x, 0, "writes 1 when 2<1 or 1>2 or 1<1 or 1>1 or 1=2;writes 2;", 2);
+        due("not less, not more, not the same", x.who(0, 5), 2);
+        tell(x, 0, "writes 1;lifts 0;blots 0;");
+        x.set(0, 0, 1);
+        x.act(2, 0, 1);
+        int had = x.look(6);
+        due("one line", x.hours(1), 1);
+        due("is a line of THE BOOK", x.look(6), had + 1);
+    }
+
     private static void otherTexts() {
         QuillDesk x = calm();
+        x.quill(0, 0);
+        good(x, 1, "at 0 clerk 0 take 2;", 1);
+        bad(x, 1, "at 0 clerk 0 write 2;", 2, 19);
+        x.deed(1);
+        x.deed(1);
+        good(x, 1, "at 0 clerk 0 write 3;", 1);
+        bad(x, 1, "at 0 clerk 0 take 3;", 2, 18);
+        x = calm();
         good(x, 1, "at 0 clerk 0 take 1;at 999 clerk 1 write 1;at 5 clerk 1 dip;at 5 clerk 1 cut;at 5 clerk 1 drop;at 5 clerk 1 rest;", 6);
         due("look(9)", x.look(9), 6);
         bad(x, 1, "at 1000 clerk 0 rest;", 2, 3);
@@ -731,7 +766,14 @@ public final class PromiseTest {
         due("within 60", y.done(0), 60);
         y.act(2, 0, 1);
         due("not within 60", y.done(1), -1);
+        tell(y, 0, "lifts 0;blots 1;writes 1;");
+        due("no draws: 1 of 1000 does not fall", y.done(1), -1);
+        y.deed(59);
+        y.act(2, 0, 2);
+        due("no draws", y.done(2), 59);
         due("look(5)", y.look(5), 0);
+        due("look(6)", y.look(6), 0);
+        due("look(7)", y.look(7), 0);
     }
 
     private static void p19() {
@@ -919,6 +961,7 @@ public final class PromiseTest {
             due("quire(2, " + p + ", 1)", x.quire(2, p, 1), back[p - 1]);
             due("quire(2, " + p + ", 2)", x.quire(2, p, 2), sheet[p - 1]);
         }
+        due("quire(1, 1, 0)", x.quire(1, 1, 0), 4);
         due("quire(12, 48, 0)", x.quire(12, 48, 0), 1);
         due("quire(12, 24, 2)", x.quire(12, 24, 2), 11);
         due("quire(12, 25, 2)", x.quire(12, 25, 2), 11);
@@ -943,6 +986,8 @@ public final class PromiseTest {
         dots(x, new int[] {2, 3, 8, 15, 5, 9}, 7, 0, 0);
         dots(x, new int[] {5, 5, 5, 5, 9, 9}, 1, 0, 0);
         dots(x, new int[] {0, 0, 1, 1, 2, 1}, 2, 0, 1);
+        dots(x, new int[] {10, 4, 0, 0, 3, 9}, 3, 37, 78);
+        dots(x, new int[] {3, 7, 15, 1, 9, 31}, 7, 154, 324);
         dots(x, new int[] {10, 4, 0, 0, 3, 9}, 3, 37, 78);
         promise = 29;
         due("dot(3, 0, 0)", x.dot(3, 0, 0), false);
@@ -1023,6 +1068,16 @@ public final class PromiseTest {
         due("0 9 0: 0 and 9", x.read(101), 2);
         due("0 9 0: 09 90 00", x.read(102), 3);
         due("0 9 0", x.read(112), 3);
+        x.sign(-1);
+        for (int v : new int[] {1, 2, 1, 2}) x.sign(v);
+        due("of several the first", x.read(0), 0);
+        due("1 2 1 2", x.read(1), 2);
+        x.sign(-1);
+        x.sign(4);
+        x.sign(4);
+        due("4 4", x.read(0), 0);
+        due("4 4", x.read(1), 1);
+        due("4 4", x.read(105), 1);
         for (int n : new int[] {-1, 2, 99, 113, MIN, MAX}) due("read(" + n + ")", x.read(n), -1);
     }
 
@@ -1071,6 +1126,8 @@ public final class PromiseTest {
     private static void p37() {
         promise = 37;
         QuillDesk x = new QuillDesk();
+        due("water(1, 1, 0)", x.water(1, 1, 0), 1);
+        due("water(1, 1, 1)", x.water(1, 1, 1), 2);
         due("water(1, 16, 0)", x.water(1, 16, 0), 32768);
         due("water(65535, 16, 0)", x.water(65535, 16, 0), 65535);
         due("water(22, 4, 0): the lowest four", x.water(22, 4, 0), 6);
@@ -1095,6 +1152,7 @@ public final class PromiseTest {
         due("none told: lift(2, 0)", x.lift(2, 0), 0);
         due("none told: lift(40, 0)", x.lift(40, 0), 16);
         due("lift(40, 1)", x.lift(40, 1), 1);
+        due("lift(3, 0)", x.lift(3, 0), 2);
         promise = 38;
         due("weight(3)", x.weight(3), 1);
         due("weight(1)", x.weight(1), 2);
@@ -1110,9 +1168,14 @@ public final class PromiseTest {
         due("weight(-1)", x.weight(-1), 0);
         due("weight(9)", x.weight(9), 1);
         promise = 39;
+        due("9 from 0 in a ring of two: 1", x.lift(2, 0), 0);
         // 9 from 0 in a ring of three: 0 itself.
         due("lift(3, 1)", x.lift(3, 1), 0);
-        due("lift(3, 0)", x.lift(3, 0), 1);
+        due("9 from 1 in a ring of 1, 2: 2", x.lift(3, 0), 1);
+        x.weight(-1);
+        x.weight(2);
+        due("2 from 0 in a ring of two: 0 itself", x.lift(2, 0), 1);
+        due("lift(2, 1)", x.lift(2, 1), 0);
         for (int n : new int[] {0, -1, 41, MIN, MAX}) due("lift(" + n + ", 0)", x.lift(n, 0), -1);
         for (int n : new int[] {-1, 2, MIN, MAX}) due("lift(3, " + n + ")", x.lift(3, n), -1);
     }
@@ -1136,6 +1199,9 @@ public final class PromiseTest {
         promise = 40;
         due("heir(-1)", x.heir(-1), 0);
         // 6 6 2 by 14: of 10 4.28 4.28 1.43, of 11 4.71 4.71 1.57.
+        due("heir(1)", x.heir(1), 1);
+        due("seal(1, 0)", x.seal(1, 0), 1);
+        x.heir(-1);
         due("heir(2)", x.heir(2), 1);
         due("heir(6)", x.heir(6), 2);
         due("heir(6)", x.heir(6), 3);
@@ -1170,14 +1236,19 @@ public final class PromiseTest {
         due("the least line", x.game(4095 & ~bits(0, 6), 1), 0);
         // The box below on the right is open by 5 and 11, the one above on the left by 0: closing goes on.
         due("0 closes, then one must draw", x.game(4095 & ~bits(0, 5, 11), 0), 0);
-        due("an empty board", x.game(0, 1), x.game(0, 1));
+        due("an empty board", x.game(0, 0), 2);
+        due("an empty board", x.game(0, 1), 0);
+        due("line 0 drawn", x.game(1, 0), -2);
+        due("line 0 drawn", x.game(1, 1), 1);
+        due("lines 0, 1, 6 drawn", x.game(67, 0), -2);
+        due("lines 0, 1, 6 drawn", x.game(67, 1), 4);
         // A row of two boxes that miss 0, 2 | 2, 4: drawing 2 gives 0 and 4 to the other one.
         due("0, 2, 4", x.game(4095 & ~bits(0, 2, 4), 0), -2);
         due("0, 2, 4", x.game(4095 & ~bits(0, 2, 4), 1), 0);
         for (int n : new int[] {-1, 4096, MIN, MAX}) due("game(" + n + ", 0)", x.game(n, 0), -10);
         for (int n : new int[] {-1, 2, MIN, MAX}) due("game(0, " + n + ")", x.game(0, n), -10);
         QuillDesk y = new QuillDesk();
-        due("asked from below first", y.game(0, 0), x.game(0, 0));
+        due("asked from below first", y.game(0, 0), 2);
         due("then from above", y.game(4095 & ~bits(7), 0), 2);
     }
 
@@ -1250,10 +1321,18 @@ public final class PromiseTest {
         x.letters(5); x.stamp(3); x.stamp(5); x.dot(1, 4, 0); x.cut(7); x.sign(3); x.leg(9); x.weight(2); x.heir(4);
         tell(x, 3, "deed 1 after 0;");
         tell(x, 2, "bird 3 wild 1 fine 1;");
-        x.hours(1);
+        tell(x, 0, "blots 999 when hand=5 and hour>8;blots 0;lifts 1000 when hour=9 and hand=9;lifts 0;");
+        x.deed(90);
+        x.set(0, 1, 50);
+        x.hours(8);
+        x.act(2, 0, 2);
+        x.act(2, 1, 2);
+        x.hours(2);
+        due("lifted, blotted, signed", 100 * x.look(3) + 10 * x.who(0, 3) + x.look(4), 113);
         x.state(77);
         x.feed(0x77777777, 0, 0, 0, 0);
         due("image(true)", x.image(true), true);
+        String all = all(x);
         int[] looks = new int[12];
         for (int i = 0; i < 12; i++) looks[i] = x.look(i);
         for (int times = 0; times < 2; times++) {
@@ -1263,7 +1342,10 @@ public final class PromiseTest {
             for (int k = 0; k < 4; k++) tell(x, k, k == 0 ? "writes 9;" : k == 1 ? "at 9 clerk 0 rest;" : "");
             x.letters(-1); x.stamp(-1); x.dot(1, 9, 9); x.cut(-1); x.sign(-1); x.leg(0); x.weight(-1); x.heir(-1);
             x.feed(0, 0, 0, 0, 0);
+            x.hours(1);
+            due("look(12)", x.look(12), 1);
             due("image(false)", x.image(false), true);
+            due("all as it was", all(x).equals(all));
             for (int i = 0; i < 12; i++) due("look(" + i + ")", x.look(i), looks[i]);
             due("nothing can be undone", x.look(12), 0);
             due("undo()", x.undo(), false);
@@ -1287,6 +1369,19 @@ public final class PromiseTest {
         due("look(12)", x.look(12), 1);
         due("taking it does not forget", x.image(true), true);
         due("look(12)", x.look(12), 1);
+    }
+
+    /** All that can be asked of a desk without thought. */
+    private static String all(QuillDesk x) {
+        StringBuilder b = new StringBuilder();
+        for (int i = 0; i < 14; i++) for (int k = 0; k < 8; k++) b.append(x.of(i, k)).append(' ').append(x.who(i, k)).append(' ').append(x.deedOf(i, k)).append(' ');
+        for (int i = 0; i < x.look(6); i++) for (int k = 0; k < 4; k++) b.append(x.book(i, k)).append(' ');
+        for (int i = 0; i < 12; i++) b.append(x.look(i)).append(' ');
+        return b.toString();
+    }
+
+    private static void due(String call, boolean so) {
+        due(call, so, true);
     }
 
     private static void p45() {
