@@ -476,6 +476,10 @@ public final class PromiseTest {
         bad(x, 0, "Writes 1;", 1, 0);
         bad(x, 0, "writeshand;", 1, 0);
         bad(x, 0, "writ 1;", 1, 0);
+        for (char c : new char[] {'a', 'z', 'A', 'Z'}) bad(x, 0, "writes" + c + " 1;", 1, 0);
+        for (char c : new char[] {'@', '[', '`', '{', '/', ':'}) bad(x, 0, "writes" + c + " 1;", 1, 6);
+        for (char c : new char[] {'0', '9'}) bad(x, 0, "writes 123" + c + "4;", 1, 7);
+        for (char c : new char[] {':', '.'}) bad(x, 0, "writes 123" + c + "4;", 1, 10);
         bad(x, 0, "writes 12345;", 1, 7);
         bad(x, 0, "writes -1;", 1, 7);
         bad(x, 0, "writes 1 2;", 1, 9);
@@ -1341,6 +1345,7 @@ public final class PromiseTest {
             x.text(9);
             for (int k = 0; k < 4; k++) tell(x, k, k == 0 ? "writes 9;" : k == 1 ? "at 9 clerk 0 rest;" : "");
             x.letters(-1); x.stamp(-1); x.dot(1, 9, 9); x.cut(-1); x.sign(-1); x.leg(0); x.weight(-1); x.heir(-1);
+            x.letters(20); x.stamp(2); x.cut(9); x.sign(8); x.leg(-3); x.weight(7); x.heir(50);
             x.feed(0, 0, 0, 0, 0);
             x.hours(1);
             due("look(12)", x.look(12), 1);
@@ -1365,10 +1370,32 @@ public final class PromiseTest {
             due("the tape is not of it", x.feed(0, 0, 0, 0, 0), 40);
             x.end(0);
         }
+        bookGoesBack();
         x.hours(1);
         due("look(12)", x.look(12), 1);
         due("taking it does not forget", x.image(true), true);
         due("look(12)", x.look(12), 1);
+    }
+
+    /** What was undone and written anew stands where the lines of THE IMAGE stood. */
+    private static void bookGoesBack() {
+        QuillDesk x = calm();
+        x.hours(1);
+        x.image(true);
+        String all = all(x);
+        x.undo();
+        x.undo();
+        x.undo();
+        tell(x, 0, "lifts 0;blots 1000;");
+        x.hours(1);
+        x.act(2, 1, 1);
+        x.hours(4);
+        due("other lines", all(x).equals(all), false);
+        x.image(false);
+        due("all as it was", all(x).equals(all));
+        x.hours(2);
+        x.image(false);
+        due("once more", all(x).equals(all));
     }
 
     /** All that can be asked of a desk without thought. */
