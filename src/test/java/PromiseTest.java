@@ -18,7 +18,7 @@ public final class PromiseTest {
         due(call, got ? 1 : 0, want ? 1 : 0);
     }
 
-    private static int feed(QuillDesk x, String s) {
+    private static int feed(Counted x, String s) {
         byte[] b = s.getBytes(StandardCharsets.ISO_8859_1);
         int had = x.feed(0, 0, 0, 0, 0) - 20;
         x.end(had);
@@ -32,26 +32,26 @@ public final class PromiseTest {
         return has;
     }
 
-    private static int tell(QuillDesk x, int k, String s) {
+    private static int tell(Counted x, int k, String s) {
         feed(x, s);
         return x.text(k);
     }
 
-    private static void good(QuillDesk x, int k, String s, int lines) {
+    private static void good(Counted x, int k, String s, int lines) {
         due("text " + k + " \"" + s + "\"", tell(x, k, s), lines);
         due("its fault", x.fault(0), 0);
         due("its place", x.fault(1), -1);
     }
 
-    private static void bad(QuillDesk x, int k, String s, int what, int place) {
+    private static void bad(Counted x, int k, String s, int what, int place) {
         due("text " + k + " \"" + s + "\"", tell(x, k, s), -1);
         due("fault(0) of \"" + s + "\"", x.fault(0), what);
         due("fault(1) of \"" + s + "\"", x.fault(1), place);
     }
 
     /** Two quills, two clerks who hold them, two deeds; nothing flies and nothing is blotted. */
-    private static QuillDesk calm() {
-        QuillDesk x = new QuillDesk();
+    private static Counted calm() {
+        Counted x = new Counted();
         x.quill(3, 20);
         x.quill(4, 5);
         x.clerk(5);
@@ -77,7 +77,7 @@ public final class PromiseTest {
     private static void p1() {
         promise = 1;
         due("NONE", QuillDesk.NONE, -1);
-        QuillDesk x = new QuillDesk();
+        Counted x = new Counted();
         for (int i = 0; i < 13; i++) due("look(" + i + ")", x.look(i), 0);
         due("fault(0)", x.fault(0), 0);
         due("fault(1)", x.fault(1), -1);
@@ -85,14 +85,14 @@ public final class PromiseTest {
         due("image(false)", x.image(false), false);
         due("feed", x.feed(0, 0, 0, 0, 0), 20);
         due("book(0, 0)", x.book(0, 0), -1);
-        QuillDesk y = new QuillDesk();
+        Counted y = new Counted();
         y.quill(0, 0);
         due("another desk is empty", x.look(0), 0);
     }
 
     private static void p2() {
         promise = 2;
-        QuillDesk x = new QuillDesk();
+        Counted x = new Counted();
         due("state(7)", x.state(7), 0);
         due("state(MIN)", x.state(MIN), 7);
         due("look(7)", x.look(7), MIN);
@@ -106,7 +106,7 @@ public final class PromiseTest {
 
     private static void p3() {
         promise = 3;
-        QuillDesk x = new QuillDesk();
+        Counted x = new Counted();
         int[][] none = {{-1, 0}, {8, 0}, {0, -1}, {0, 100}, {MIN, 0}, {0, MAX}};
         for (int[] n : none) due("quill(" + n[0] + ", " + n[1] + ")", x.quill(n[0], n[1]), -1);
         x.hours(1);
@@ -125,7 +125,7 @@ public final class PromiseTest {
 
     private static void p4() {
         promise = 4;
-        QuillDesk x = new QuillDesk();
+        Counted x = new Counted();
         for (int n : new int[] {-1, 10, MIN, MAX}) due("clerk(" + n + ")", x.clerk(n), -1);
         x.hours(1);
         for (int i = 0; i < 10; i++) due("clerk " + i, x.clerk(9 - i), i);
@@ -138,7 +138,7 @@ public final class PromiseTest {
 
     private static void p5() {
         promise = 5;
-        QuillDesk x = new QuillDesk();
+        Counted x = new Counted();
         for (int n : new int[] {-1, 0, 100, MIN, MAX}) due("deed(" + n + ")", x.deed(n), -1);
         x.hours(1);
         due("deed(1)", x.deed(1), 0);
@@ -153,7 +153,7 @@ public final class PromiseTest {
 
     private static void p6() {
         promise = 6;
-        QuillDesk x = calm();
+        Counted x = calm();
         due("look(12)", x.look(12), 4);
         due("set(0, 0, 100)", x.set(0, 0, 100), false);
         due("set(0, 0, -1)", x.set(0, 0, -1), false);
@@ -182,7 +182,7 @@ public final class PromiseTest {
 
     private static void p7() {
         promise = 7;
-        QuillDesk x = new QuillDesk();
+        Counted x = new Counted();
         x.quill(0, 98);
         x.quill(1, 99);
         x.clerk(0);
@@ -224,7 +224,7 @@ public final class PromiseTest {
         due("act(1, 0, MAX)", x.act(1, 0, MAX), true);
         due("who(0, 1)", x.who(0, 1), -1);
         due("look(12)", x.look(12), 6);
-        QuillDesk y = calm();
+        Counted y = calm();
         y.hours(1);
         y.hours(1);
         due("look(4)", y.look(4), 1);
@@ -238,7 +238,7 @@ public final class PromiseTest {
 
     private static void p8() {
         promise = 8;
-        QuillDesk x = calm();
+        Counted x = calm();
         for (int n : new int[] {0, -1, 61, MIN, MAX}) due("hours(" + n + ")", x.hours(n), -1);
         due("look(5)", x.look(5), 0);
         // Clerk 0 writes 6 of 8, clerk 1 all that his ink gives, 5 of 12.
@@ -259,7 +259,7 @@ public final class PromiseTest {
         due("look(5)", x.look(5), 2);
         due("look(7): no draw for what is 0", x.look(7), 0);
         due("hours(60)", x.hours(60), 0);
-        QuillDesk y = new QuillDesk();
+        Counted y = new Counted();
         for (int i = 0; i < 166; i++) y.hours(60);
         due("look(5)", y.look(5), 9960);
         due("hours(40)", y.hours(40), -1);
@@ -271,7 +271,7 @@ public final class PromiseTest {
     }
 
     private static void wearAndBookAreFull() {
-        QuillDesk x = new QuillDesk();
+        Counted x = new Counted();
         x.quill(0, 99);
         x.quill(1, 9);
         x.clerk(0);
@@ -306,7 +306,7 @@ public final class PromiseTest {
 
     /** The first draws of 1000 from 0 are 563, 577, 494. */
     private static void drawsOfAnHour() {
-        QuillDesk x = new QuillDesk();
+        Counted x = new Counted();
         x.quill(2, 50);
         x.clerk(0);
         x.deed(99);
@@ -331,7 +331,7 @@ public final class PromiseTest {
         due("look(7)", x.look(7), 1013904223);
         due("only his hour's draws", x.hours(5), 0);
         due("look(7)", x.look(7), 1013904223);
-        QuillDesk y = calm();
+        Counted y = calm();
         tell(y, 0, "lifts 0-1;blots 0;writes 1;");
         y.hours(1);
         due("below 0 nothing is drawn", y.look(7), 0);
@@ -342,7 +342,7 @@ public final class PromiseTest {
     }
 
     private static void ordersOfAnHour() {
-        QuillDesk x = new QuillDesk();
+        Counted x = new Counted();
         x.quill(0, 1);
         x.quill(1, 1);
         x.clerk(0);
@@ -367,7 +367,7 @@ public final class PromiseTest {
         x.hours(1);
         due("a deed that is done is not gone to", x.who(0, 2), -1);
         due("rest", x.who(1, 2), -1);
-        QuillDesk y = new QuillDesk();
+        Counted y = new Counted();
         y.quill(0, 10);
         y.quill(0, 10);
         y.clerk(0);
@@ -385,7 +385,7 @@ public final class PromiseTest {
 
     private static void p9() {
         promise = 9;
-        QuillDesk x = new QuillDesk();
+        Counted x = new Counted();
         for (int i = 1; i <= 20; i++) due("feed " + i, x.feed(MIN, -1, 0, MAX, i), 20 * i);
         due("more than 400", x.feed(0, 0, 0, 0, 0), -1);
         due("end(400)", x.end(400), true);
@@ -394,7 +394,7 @@ public final class PromiseTest {
         x.end(380);
         due("380 and 20", x.feed(0, 0, 0, 0, 0), 400);
         // The highest byte comes first: "bird 3 wild 2 fine 3;".
-        QuillDesk y = new QuillDesk();
+        Counted y = new Counted();
         y.feed(1651077732, 540221559, 1768711200, 840984169, 1852121139);
         y.feed(991961120, 0, 0, 0, 0);
         y.end(21);
@@ -409,7 +409,7 @@ public final class PromiseTest {
 
     private static void p10() {
         promise = 10;
-        QuillDesk x = new QuillDesk();
+        Counted x = new Counted();
         due("end(0)", x.end(0), true);
         due("end(1)", x.end(1), false);
         x.feed(0x3b202020, 0, 0, 0, 0);
@@ -429,7 +429,7 @@ public final class PromiseTest {
 
     private static void p11() {
         promise = 11;
-        QuillDesk x = calm();
+        Counted x = calm();
         good(x, 0, "", 0);
         good(x, 0, " \n writes 1 ; \n", 1);
         due("look(8)", x.look(8), 1);
@@ -463,7 +463,7 @@ public final class PromiseTest {
     }
 
     private static void lawFaults() {
-        QuillDesk x = calm();
+        Counted x = calm();
         String[] good = {"writes1;", "writes 0001when hand=1;", "lifts 9999*9999*9999;", "blots deed-1/1;",
             "writes 1 when not(1=1 or 2<3)and not not hand>1;", "writes 1\nwhen((((((((1=1))))))));",
             "writes 1 when not not not not not not not not 1=1;", "writes 1 when (1=1) and (((((((1=1)))))));",
@@ -509,7 +509,7 @@ public final class PromiseTest {
     }
 
     private static void lawTells() {
-        QuillDesk x = calm();
+        Counted x = calm();
         tell(x, 2, "bird 3 wild 2 fine 7;");
         x.set(1, 0, 4);
         String[] says = {"hand", "ink", "worn", "wild", "fine", "left", "signed", "lifted", "bird", "deed", "hour",
@@ -547,7 +547,7 @@ public final class PromiseTest {
     }
 
     private static void lawKnows() {
-        QuillDesk x = calm();
+        Counted x = calm();
         x.hours(2);
         tell(x, 0, "lifts 1000 when hand=9;lifts 0;");
         x.act(2, 1, 1);
@@ -572,7 +572,7 @@ public final class PromiseTest {
     }
 
     private static void otherTexts() {
-        QuillDesk x = calm();
+        Counted x = calm();
         x.quill(0, 0);
         good(x, 1, "at 0 clerk 0 take 2;", 1);
         bad(x, 1, "at 0 clerk 0 write 2;", 2, 19);
@@ -620,14 +620,14 @@ public final class PromiseTest {
         bad(x, 3, "deed 1 before 0;", 1, 7);
         bad(x, 3, "deed 1 after 0;".repeat(17), 3, 240);
         good(x, 3, "deed 1 after 0;".repeat(16), 16);
-        QuillDesk none = new QuillDesk();
+        Counted none = new Counted();
         bad(none, 1, "at 0 clerk 0 rest;", 2, 11);
         bad(none, 3, "deed 0 after 0;", 2, 5);
     }
 
     private static void p12() {
         promise = 12;
-        QuillDesk x = new QuillDesk();
+        Counted x = new Counted();
         due("fault(2)", x.fault(2), -1);
         due("fault(-1)", x.fault(-1), -1);
         due("fault(MIN)", x.fault(MIN), -1);
@@ -646,7 +646,7 @@ public final class PromiseTest {
 
     private static void p13() {
         promise = 13;
-        QuillDesk x = calm();
+        Counted x = calm();
         int[] first = {3, 20, 0, 0, 0, 0, 5};
         for (int i = 0; i < 7; i++) due("of(0, " + i + ")", x.of(0, i), first[i]);
         due("of(1, 4)", x.of(1, 4), 1);
@@ -658,7 +658,7 @@ public final class PromiseTest {
 
     private static void p14() {
         promise = 14;
-        QuillDesk x = calm();
+        Counted x = calm();
         x.act(1, 1, 0);
         x.act(2, 1, -1);
         tell(x, 0, "");
@@ -681,7 +681,7 @@ public final class PromiseTest {
 
     private static void p15() {
         promise = 15;
-        QuillDesk x = calm();
+        Counted x = calm();
         x.deed(3);
         tell(x, 3, "deed 2 after 0;deed 2 after 1;deed 1 after 0;deed 2 after 0;");
         due("deedOf(2, 3)", x.deedOf(2, 3), 3);
@@ -705,7 +705,7 @@ public final class PromiseTest {
 
     private static void p16() {
         promise = 16;
-        QuillDesk x = calm();
+        Counted x = calm();
         x.hours(2);
         tell(x, 0, "lifts 1000;");
         x.act(2, 0, 1);
@@ -715,7 +715,7 @@ public final class PromiseTest {
         for (int i = 0; i < lines.length; i++) for (int k = 0; k < 4; k++) due("book(" + i + ", " + k + ")", x.book(i, k), lines[i][k]);
         for (int n : new int[] {-1, 4, MIN, MAX}) due("book(0, " + n + ")", x.book(0, n), -1);
         for (int n : new int[] {-1, 6, 150, MIN, MAX}) due("book(" + n + ", 0)", x.book(n, 0), -1);
-        QuillDesk y = calm();
+        Counted y = calm();
         tell(y, 0, "blots 1000 when deed=1;blots 0;lifts 0;");
         y.hours(1);
         due("a blot tells the deed", y.book(1, 1), 1);
@@ -725,7 +725,7 @@ public final class PromiseTest {
 
     private static void p17() {
         promise = 17;
-        QuillDesk x = calm();
+        Counted x = calm();
         x.hours(1);
         int[][] due = {{13, 0, 0, 1}, {13, 0, 0, 1}};
         for (int k = 0; k < 4; k++) due("goes(" + 1 + ", " + k + ")", x.goes(1, k), due[0][k]);
@@ -751,7 +751,7 @@ public final class PromiseTest {
 
     private static void p18() {
         promise = 18;
-        QuillDesk x = calm();
+        Counted x = calm();
         due("done(0)", x.done(0), 2);
         due("done(1)", x.done(1), -1);
         x.hours(1);
@@ -759,7 +759,7 @@ public final class PromiseTest {
         x.hours(1);
         due("done(0)", x.done(0), 0);
         for (int n : new int[] {-1, 2, MIN, MAX}) due("done(" + n + ")", x.done(n), -1);
-        QuillDesk y = new QuillDesk();
+        Counted y = new Counted();
         y.quill(0, 99);
         y.clerk(9);
         y.deed(60);
@@ -782,7 +782,7 @@ public final class PromiseTest {
 
     private static void p19() {
         promise = 19;
-        QuillDesk x = new QuillDesk();
+        Counted x = new Counted();
         due("soon(1, 0)", x.soon(1, 0), 0);
         due("soon(1, 1)", x.soon(1, 1), -1);
         int[] lengths = {10, 9, 4, 14};
@@ -797,7 +797,7 @@ public final class PromiseTest {
         due("10 + 9 + 4", x.soon(1, 0), 23);
         for (int n : new int[] {0, -1, 100, MIN, MAX}) due("soon(" + n + ", 0)", x.soon(n, 0), -1);
         for (int n : new int[] {-1, 2, MIN, MAX}) due("soon(1, " + n + ")", x.soon(1, n), -1);
-        QuillDesk y = calm();
+        Counted y = calm();
         y.hours(2);
         tell(y, 3, "deed 1 after 0;");
         due("what is done takes nothing", y.soon(1, 0), 7);
@@ -810,7 +810,7 @@ public final class PromiseTest {
 
     private static void p20() {
         promise = 20;
-        QuillDesk x = new QuillDesk();
+        Counted x = new Counted();
         int[] all = {1, 1, 1, 2, 5, 16, 61, 272, 1385, 7936, 50521, 353792, 2702765};
         for (int n = 0; n <= 12; n++) {
             due("flock(" + n + ", -1)", x.flock(n, -1), all[n]);
@@ -830,7 +830,7 @@ public final class PromiseTest {
 
     private static void p21() {
         promise = 21;
-        QuillDesk x = new QuillDesk();
+        Counted x = new Counted();
         for (int n : new int[] {0, -2, 21, MIN, MAX}) due("letters(" + n + ")", x.letters(n), -1);
         due("letters(-1)", x.letters(-1), 0);
         for (int i = 1; i <= 10; i++) due("letters " + i, x.letters(i == 1 ? 20 : 1), i);
@@ -854,7 +854,7 @@ public final class PromiseTest {
         due("page(60, 0): 20 20 | 20", x.page(60, 0), 361);
         for (int n : new int[] {19, -1, 61, MIN, MAX}) due("page(" + n + ", 0)", x.page(n, 0), -1);
         for (int n : new int[] {-1, 2, MIN, MAX}) due("page(20, " + n + ")", x.page(20, n), -1);
-        QuillDesk y = new QuillDesk();
+        Counted y = new Counted();
         y.hours(1);
         y.letters(3);
         due("letters does not forget", y.look(12), 1);
@@ -862,7 +862,7 @@ public final class PromiseTest {
 
     private static void p23() {
         promise = 23;
-        QuillDesk x = new QuillDesk();
+        Counted x = new Counted();
         for (int n : new int[] {0, -2, 31, MIN, MAX}) due("stamp(" + n + ")", x.stamp(n), -1);
         due("stamp(30)", x.stamp(30), 1);
         due("stamp(29), the same twice", x.stamp(29), 2);
@@ -890,7 +890,7 @@ public final class PromiseTest {
 
     private static void p25() {
         promise = 25;
-        QuillDesk x = new QuillDesk();
+        Counted x = new Counted();
         due("scratch(1, 0)", x.scratch(1, 0), 0);
         due("scratch(1, 1)", x.scratch(1, 1), 1);
         due("scratch(2, 1): n, too", x.scratch(2, 1), 2);
@@ -905,8 +905,9 @@ public final class PromiseTest {
 
     private static void p26() {
         promise = 26;
-        QuillDesk x = new QuillDesk();
+        Counted x = new Counted();
         for (int n = -9999; n <= 9999; n += 101) {
+            x = new Counted();
             int sum = 0;
             int times = 1;
             int some = 0;
@@ -934,7 +935,7 @@ public final class PromiseTest {
 
     private static void p27() {
         promise = 27;
-        QuillDesk x = new QuillDesk();
+        Counted x = new Counted();
         int[][] way = {{0, 0}, {1, 0}, {1, 1}, {0, 1}, {0, 2}, {-1, 2}, {-1, 1}, {-2, 1}, {-2, 2}};
         for (int n = 0; n < way.length; n++) for (int k = 0; k < 2; k++) due("curve(3, " + n + ", " + k + ")", x.curve(3, n, k), way[n][k]);
         int[] left = {1, 1, 0, 1, 1, 0, 0};
@@ -956,7 +957,7 @@ public final class PromiseTest {
 
     private static void p28() {
         promise = 28;
-        QuillDesk x = new QuillDesk();
+        Counted x = new Counted();
         int[] beside = {8, 7, 6, 5, 4, 3, 2, 1};
         int[] back = {2, 1, 4, 3, 6, 5, 8, 7};
         int[] sheet = {0, 0, 1, 1, 1, 1, 0, 0};
@@ -974,7 +975,7 @@ public final class PromiseTest {
         for (int n : new int[] {-1, 3, MIN, MAX}) due("quire(2, 1, " + n + ")", x.quire(2, 1, n), -1);
     }
 
-    private static void dots(QuillDesk x, int[] p, int on, int inside, int twice) {
+    private static void dots(Counted x, int[] p, int on, int inside, int twice) {
         promise = 29;
         for (int i = 0; i < 3; i++) due("dot(" + i + ")", x.dot(i, p[2 * i], p[2 * i + 1]), true);
         promise = 30;
@@ -984,7 +985,7 @@ public final class PromiseTest {
     }
 
     private static void p29() {
-        QuillDesk x = new QuillDesk();
+        Counted x = new Counted();
         dots(x, new int[] {0, 0, 99, 0, 0, 99}, 100, 4753, 9801);
         dots(x, new int[] {0, 0, 0, 99, 99, 0}, 100, 4753, 9801);
         dots(x, new int[] {2, 3, 8, 15, 5, 9}, 7, 0, 0);
@@ -1008,7 +1009,7 @@ public final class PromiseTest {
 
     private static void p31() {
         promise = 31;
-        QuillDesk x = new QuillDesk();
+        Counted x = new Counted();
         for (int n : new int[] {0, -2, 60, MIN, MAX}) due("cut(" + n + ")", x.cut(n), -1);
         int[] places = {59, 1, 10, 40, 30, 20, 50};
         for (int i = 0; i < 7; i++) {
@@ -1045,7 +1046,7 @@ public final class PromiseTest {
 
     private static void p33() {
         promise = 33;
-        QuillDesk x = new QuillDesk();
+        Counted x = new Counted();
         for (int n : new int[] {-2, 10, MIN, MAX}) due("sign(" + n + ")", x.sign(n), -1);
         int[] row = {2, 1, 3, 2, 1, 3, 2, 1, 3, 2, 1, 3};
         for (int i = 0; i < 12; i++) due("sign " + i, x.sign(row[i]), i + 1);
@@ -1087,7 +1088,7 @@ public final class PromiseTest {
 
     private static void p35() {
         promise = 35;
-        QuillDesk x = new QuillDesk();
+        Counted x = new Counted();
         for (int n : new int[] {-180, 180, MIN, MAX}) due("leg(" + n + ")", x.leg(n), -1);
         promise = 36;
         for (int k = 0; k < 3; k++) due("line(" + k + ")", x.line(k), 0);
@@ -1129,7 +1130,7 @@ public final class PromiseTest {
 
     private static void p37() {
         promise = 37;
-        QuillDesk x = new QuillDesk();
+        Counted x = new Counted();
         due("water(1, 1, 0)", x.water(1, 1, 0), 1);
         due("water(1, 1, 1)", x.water(1, 1, 1), 2);
         due("water(1, 16, 0)", x.water(1, 16, 0), 32768);
@@ -1150,7 +1151,7 @@ public final class PromiseTest {
 
     private static void p38() {
         promise = 38;
-        QuillDesk x = new QuillDesk();
+        Counted x = new Counted();
         for (int n : new int[] {0, -2, 10, MIN, MAX}) due("weight(" + n + ")", x.weight(n), -1);
         promise = 39;
         due("none told: lift(2, 0)", x.lift(2, 0), 0);
@@ -1186,7 +1187,7 @@ public final class PromiseTest {
 
     private static void p40() {
         promise = 40;
-        QuillDesk x = new QuillDesk();
+        Counted x = new Counted();
         for (int n : new int[] {0, -2, 51, MIN, MAX}) due("heir(" + n + ")", x.heir(n), -1);
         promise = 41;
         due("none told", x.seal(5, 0), -1);
@@ -1227,7 +1228,7 @@ public final class PromiseTest {
 
     private static void p42() {
         promise = 42;
-        QuillDesk x = new QuillDesk();
+        Counted x = new Counted();
         due("game(4095, 0)", x.game(4095, 0), 0);
         due("game(4095, 1)", x.game(4095, 1), -1);
         for (int l = 0; l < 12; l++) {
@@ -1251,14 +1252,14 @@ public final class PromiseTest {
         due("0, 2, 4", x.game(4095 & ~bits(0, 2, 4), 1), 0);
         for (int n : new int[] {-1, 4096, MIN, MAX}) due("game(" + n + ", 0)", x.game(n, 0), -10);
         for (int n : new int[] {-1, 2, MIN, MAX}) due("game(0, " + n + ")", x.game(0, n), -10);
-        QuillDesk y = new QuillDesk();
+        Counted y = new Counted();
         due("asked from below first", y.game(0, 0), 2);
         due("then from above", y.game(4095 & ~bits(7), 0), 2);
     }
 
     private static void p43() {
         promise = 43;
-        QuillDesk x = calm();
+        Counted x = calm();
         due("look(12)", x.look(12), 4);
         x.hours(3);
         due("six are kept", x.look(12), 6);
@@ -1274,7 +1275,7 @@ public final class PromiseTest {
         due("the second taking went back", x.who(1, 1), -1);
         due("the first taking did not", x.who(0, 1), 0);
         due("the book went back", x.look(6), 0);
-        QuillDesk y = calm();
+        Counted y = calm();
         tell(y, 0, "lifts 1000;");
         y.hours(1);
         due("look(3)", y.look(3), 2);
@@ -1319,7 +1320,7 @@ public final class PromiseTest {
 
     private static void p44() {
         promise = 44;
-        QuillDesk x = calm();
+        Counted x = calm();
         due("image(false)", x.image(false), false);
         due("what is refused does not forget", x.look(12), 4);
         x.letters(5); x.stamp(3); x.stamp(5); x.dot(1, 4, 0); x.cut(7); x.sign(3); x.leg(9); x.weight(2); x.heir(4);
@@ -1337,8 +1338,6 @@ public final class PromiseTest {
         x.feed(0x77777777, 0, 0, 0, 0);
         due("image(true)", x.image(true), true);
         String all = all(x);
-        int[] looks = new int[12];
-        for (int i = 0; i < 12; i++) looks[i] = x.look(i);
         for (int times = 0; times < 2; times++) {
             x.hours(5);
             x.quill(1, 1); x.clerk(1); x.deed(1); x.set(2, 0, 0); x.state(5);
@@ -1351,7 +1350,6 @@ public final class PromiseTest {
             due("look(12)", x.look(12), 1);
             due("image(false)", x.image(false), true);
             due("all as it was", all(x).equals(all));
-            for (int i = 0; i < 12; i++) due("look(" + i + ")", x.look(i), looks[i]);
             due("nothing can be undone", x.look(12), 0);
             due("undo()", x.undo(), false);
             due("page(20, 1)", x.page(20, 1), 1);
@@ -1362,24 +1360,18 @@ public final class PromiseTest {
             due("line(0)", x.line(0), 9);
             due("lift(3, 1)", x.lift(3, 1), 2);
             due("seal(3, 0)", x.seal(3, 0), 3);
-            due("of(0, 6)", x.of(0, 6), 1);
-            due("who(0, 0)", x.who(0, 0), 5);
-            due("who(0, 5)", x.who(0, 5), 2);
-            due("deedOf(1, 3)", x.deedOf(1, 3), 1);
-            due("book(0, 3)", x.book(0, 3), 2);
             due("the tape is not of it", x.feed(0, 0, 0, 0, 0), 40);
             x.end(0);
         }
         bookGoesBack();
-        x.hours(1);
-        due("look(12)", x.look(12), 1);
-        due("taking it does not forget", x.image(true), true);
-        due("look(12)", x.look(12), 1);
+        Counted y = calm();
+        due("taking it does not forget", y.image(true), true);
+        due("look(12)", y.look(12), 4);
     }
 
     /** What was undone and written anew stands where the lines of THE IMAGE stood. */
     private static void bookGoesBack() {
-        QuillDesk x = calm();
+        Counted x = calm();
         x.hours(1);
         x.image(true);
         String all = all(x);
@@ -1399,10 +1391,13 @@ public final class PromiseTest {
     }
 
     /** All that can be asked of a desk without thought. */
-    private static String all(QuillDesk x) {
+    private static String all(Counted x) {
         StringBuilder b = new StringBuilder();
-        for (int i = 0; i < 14; i++) for (int k = 0; k < 8; k++) b.append(x.of(i, k)).append(' ').append(x.who(i, k)).append(' ').append(x.deedOf(i, k)).append(' ');
-        for (int i = 0; i < x.look(6); i++) for (int k = 0; k < 4; k++) b.append(x.book(i, k)).append(' ');
+        int quills = x.look(0), clerks = x.look(1), deeds = x.look(2), lines = x.look(6);
+        for (int i = 0; i < quills; i++) for (int k = 0; k < 7; k++) b.append(x.of(i, k)).append(' ');
+        for (int i = 0; i < clerks; i++) for (int k = 0; k < 8; k++) b.append(x.who(i, k)).append(' ');
+        for (int i = 0; i < deeds; i++) for (int k = 0; k < 6; k++) b.append(x.deedOf(i, k)).append(' ');
+        for (int i = 0; i < lines; i++) for (int k = 0; k < 4; k++) b.append(x.book(i, k)).append(' ');
         for (int i = 0; i < 12; i++) b.append(x.look(i)).append(' ');
         return b.toString();
     }
@@ -1413,7 +1408,7 @@ public final class PromiseTest {
 
     private static void p45() {
         promise = 45;
-        QuillDesk x = calm();
+        Counted x = calm();
         tell(x, 1, "at 9 clerk 0 rest;at 9 clerk 0 rest;");
         tell(x, 2, "bird 0 wild 0 fine 0;".repeat(3));
         tell(x, 3, "deed 1 after 0;".repeat(4));
