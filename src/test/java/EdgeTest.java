@@ -6,6 +6,7 @@ public final class EdgeTest {
         TextEdges.all();
         ThoughtEdges.all();
         PastEdges.all();
+        ElseEdges.all();
         for (int p = 1; p <= 45; p++) {
             if (Edges.PROMISES.contains(p)) continue;
             Edges.broken++;

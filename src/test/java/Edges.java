@@ -105,12 +105,12 @@ final class Edges {
         if (count[0] > 0) ask(r, all, "of(0, 5)", "of(0, 6)");
     }
 
-    private static void thought(Run r, List<String> all) {
+    static void thought(Run r, List<String> all) {
         ask(r, all, "page(20, 0)", "page(20, 1)", "stamps(0)", "stamps(1)", "dots(0)", "dots(1)", "dots(2)", "planks(60, 0)", "planks(60, 1)",
             "read(0)", "read(1)", "read(102)", "line(0)", "line(1)", "line(2)", "lift(9, 0)", "lift(9, 1)", "seal(100, 0)", "seal(7, -1)", "goes(9, 0)");
     }
 
-    private static void tape(Run r, List<String> all) {
+    static void tape(Run r, List<String> all) {
         int has = r.call("feed(0, 0, 0, 0, 0)");
         int n = has >= 20 ? has - 20 : 400;
         while (n > 0 && r.call("end(" + n + ")") == 0) n--;
@@ -118,7 +118,7 @@ final class Edges {
         ask(r, all, "text(0)", "fault(0)", "fault(1)", "look(8)", "who(0, 5)");
     }
 
-    private static void past(Run r, List<String> all) {
+    static void past(Run r, List<String> all) {
         for (int i = 0; i < 7; i++) {
             ask(r, all, "undo()");
             if (all.get(all.size() - 1).equals("undo() = 0")) return;
