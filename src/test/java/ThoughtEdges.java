@@ -1,5 +1,9 @@
 /** The edges of Terms 4 (IN THOUGHT) and of promises 17 to 42. */
 final class ThoughtEdges {
+    /** DEED 1 is done, then it is told to come after DEED 0, which is not, and DEED 2 after it. */
+    private static final String[] LATE = {"quill(0, 99)", "clerk(0)", "deed(50)", "deed(5)", "deed(7)", "tell(0, 'lifts 0;blots 0;writes 9;')",
+        "act(0, 0, 0)", "act(2, 0, 1)", "hours(1) = 5", "look(4) = 2", "tell(3, 'deed 1 after 0;deed 2 after 1;') = 2"};
+
     private ThoughtEdges() { }
 
     static void all() {
@@ -142,6 +146,10 @@ final class ThoughtEdges {
         Edges.unchanged(18, "NONE if there is none such", Edges.BUSY, "done(4) = NONE", "done(-1) = NONE", "done(11) = NONE", "done(12) = NONE",
             "done(MIN) = NONE", "done(MAX) = NONE");
         Edges.unchanged(18, "(nothing of it stays)", Edges.BUSY, "done(0) = 1", "done(1) = 0", "done(2) = NONE", "done(3) = NONE");
+        Edges.edge(18, "0: it is, though a line told since puts it behind one that is not; what comes after it can be begun", r -> {
+            r.all(LATE);
+            r.all("done(1) = 0", "deedOf(1, 3) = 1", "deedOf(1, 4) = 0", "deedOf(2, 4) = 1", "act(2, 0, 2)", "done(2) = 1", "hours(1) = 7", "look(4) = 6");
+        });
         Edges.edge(18, "the twelfth, and none behind it", "11 times deed(9)", "deed(1) = 11", "quill(0, 9)", "clerk(0)", "act(0, 0, 0)", "act(2, 0, 11)",
             "tell(0, 'lifts 0;blots 0;writes 1;')", "done(11) = 1", "done(12) = NONE", "done(10) = NONE");
     }
@@ -164,6 +172,10 @@ final class ThoughtEdges {
         Edges.edge(19, "lines that are left: not those WRITTEN", "one()", "hours(6)", "soon(1, 0) = 2", "soon(2, 0) = 1");
         Edges.edge(19, "one that is done takes nothing, and what comes after it begins at once", "one()", "deed(5)", "tell(3, 'deed 1 after 0;')",
             "soon(1, 0) = 25", "set(0, 0, 99)", "hours(7)", "soon(1, 0) = 5", "soon(1, 1) = 1");
+        Edges.edge(19, "one that is done is behind nothing any more, though a line told since puts it behind one that is not", r -> {
+            r.all(LATE);
+            r.all("soon(1, 0) = 50", "soon(1, 1) = 0", "soon(50, 0) = 1", "soon(50, 1) = 0", "soon(7, 0) = 8", "soon(7, 1) = 0");
+        });
         Edges.edge(19, "behind the one that is done last, of several", "3 times deed(4)", "deed(1)", "tell(3, 'deed 1 after 0;deed 3 after 2;deed 3 after 1;')",
             "soon(1, 0) = 9", "soon(1, 1) = 3");
     }
